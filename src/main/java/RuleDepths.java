@@ -152,19 +152,19 @@ public final class RuleDepths {
     /** Promise 7. */
     public int insert(int key, int zero, int one, int two) {
         before.copyFrom(engine.state);
-        return settle(tryInsert(key, zero, one, two));
+        return settle(engine.runInsert(key, zero, one, two));
     }
 
     /** Promise 8. */
     public int update(int key, int field, int value) {
         before.copyFrom(engine.state);
-        return settle(tryUpdate(key, field, value));
+        return settle(engine.runUpdate(key, field, value));
     }
 
     /** Promise 9. */
     public int delete(int key) {
         before.copyFrom(engine.state);
-        return settle(tryDelete(key));
+        return settle(engine.runDelete(key));
     }
 
     // ---- texts
@@ -281,7 +281,7 @@ public final class RuleDepths {
 
     /** Promise 22. */
     public int ifInserted(int key, int zero, int one, int two, int what) {
-        int fault = insertFault(key, zero, one, two);
+        int fault = engine.insertFault(key, zero, one, two);
         if (fault != FINE) {
             return fault;
         }
@@ -296,7 +296,7 @@ public final class RuleDepths {
 
     /** Promise 23. */
     public int ifUpdated(int key, int field, int value, int what) {
-        int fault = updateFault(key, field, value);
+        int fault = engine.updateFault(key, field, value);
         if (fault != FINE && fault != NONE) {
             return fault;
         }
@@ -314,7 +314,7 @@ public final class RuleDepths {
 
     /** Promise 24. */
     public int ifDeleted(int key, int what) {
-        int fault = deleteFault(key);
+        int fault = engine.deleteFault(key);
         if (fault != FINE) {
             return fault;
         }
@@ -329,7 +329,7 @@ public final class RuleDepths {
 
     /** Promise 25. */
     public int depthFor(int key, int field, int value) {
-        int fault = updateFault(key, field, value);
+        int fault = engine.updateFault(key, field, value);
         if (fault != FINE) {
             return fault;
         }
@@ -357,56 +357,15 @@ public final class RuleDepths {
         return answer;
     }
 
-    private int tryInsert(int key, int zero, int one, int two) {
-        int fault = insertFault(key, zero, one, two);
-        return fault == FINE ? engine.runInsert(key, zero, one, two) : fault;
-    }
-
-    private int tryUpdate(int key, int field, int value) {
-        int fault = updateFault(key, field, value);
-        return fault == FINE ? engine.runUpdate(key, field, value) : fault;
-    }
-
-    private int tryDelete(int key) {
-        int fault = deleteFault(key);
-        return fault == FINE ? engine.runDelete(key) : fault;
-    }
-
     private int performStatement() {
         switch (text.event) {
             case INSERT:
-                return tryInsert(text.key, text.first, text.second, text.third);
+                return engine.runInsert(text.key, text.first, text.second, text.third);
             case UPDATE:
-                return tryUpdate(text.key, text.field, text.first);
+                return engine.runUpdate(text.key, text.field, text.first);
             default:
-                return tryDelete(text.key);
+                return engine.runDelete(text.key);
         }
-    }
-
-    private int insertFault(int key, int zero, int one, int two) {
-        if (!isKey(key) || !isValue(zero) || !isValue(one) || !isValue(two)) {
-            return OUT_OF_RANGE;
-        }
-        Table table = engine.state.table;
-        if (table.rowOf(key) != null) {
-            return DUPLICATE;
-        }
-        return table.isFull() ? FULL : FINE;
-    }
-
-    private int updateFault(int key, int field, int value) {
-        Row row = engine.state.table.rowOf(key);
-        if (row == null) {
-            return UNKNOWN;
-        }
-        if (!within(field, 0, MOST_FIELD) || !isValue(value)) {
-            return OUT_OF_RANGE;
-        }
-        return row.valueOf(field) == value ? NONE : FINE;
-    }
-
-    private int deleteFault(int key) {
-        return engine.state.table.rowOf(key) == null ? UNKNOWN : FINE;
     }
 
     private static boolean isReport(int what) {
@@ -426,10 +385,6 @@ public final class RuleDepths {
             return within(kind, SET, SKIP);
         }
         return kind == REFUSE || within(kind, CAUSE_INSERT, CAUSE_DELETE);
-    }
-
-    private static boolean isKey(int key) {
-        return within(key, 0, MOST_KEY);
     }
 
     private static boolean isValue(int value) {
@@ -455,7 +410,10 @@ public final class RuleDepths {
         }
 
         void copyFrom(Row other) {
-            fill(other.key, other.zero, other.one, other.two);
+            key = other.key;
+            zero = other.zero;
+            one = other.one;
+            two = other.two;
         }
 
         int valueOf(int field) {
@@ -506,17 +464,13 @@ public final class RuleDepths {
         }
 
         Row rowOf(int key) {
-            return rowAt(placeOf(key));
-        }
-
-        private int placeOf(int key) {
             for (int place = 0; place < count && place < rows.length; place++) {
                 Row row = rows[place];
                 if (row != null && row.key == key) {
-                    return place;
+                    return row;
                 }
             }
-            return NONE;
+            return null;
         }
 
         void take(Row image) {
@@ -541,17 +495,19 @@ public final class RuleDepths {
         }
 
         void drop(int key) {
-            int place = placeOf(key);
-            if (place < 0 || place >= rows.length) {
-                return;
+            Row dropped = null;
+            for (int place = 0; place < count && place < rows.length; place++) {
+                Row row = rows[place];
+                if (dropped == null && row != null && row.key == key) {
+                    dropped = row;
+                }
+                if (dropped != null) {
+                    rows[place] = place + 1 < count && place + 1 < rows.length ? rows[place + 1] : dropped;
+                }
             }
-            Row dropped = rows[place];
-            int last = place;
-            for (; last + 1 < count && last + 1 < rows.length; last++) {
-                rows[last] = rows[last + 1];
+            if (dropped != null) {
+                count--;
             }
-            rows[last] = dropped;
-            count--;
         }
 
         void copyFrom(Table other) {
@@ -939,32 +895,76 @@ public final class RuleDepths {
             top = new Level(1, level);
         }
 
-        /** Answers the number of operations, or REFUSED. */
+        /** Answers the error of an insert, or FINE. */
+        int insertFault(int key, int zero, int one, int two) {
+            if (!within(key, 0, MOST_KEY) || !isValue(zero) || !isValue(one) || !isValue(two)) {
+                return OUT_OF_RANGE;
+            }
+            if (state.table.rowOf(key) != null) {
+                return DUPLICATE;
+            }
+            return state.table.isFull() ? FULL : FINE;
+        }
+
+        /** Answers the error of an update, NONE if it is nothing, or FINE. */
+        int updateFault(int key, int field, int value) {
+            Row row = state.table.rowOf(key);
+            if (row == null) {
+                return UNKNOWN;
+            }
+            if (!within(field, 0, MOST_FIELD) || !isValue(value)) {
+                return OUT_OF_RANGE;
+            }
+            return row.valueOf(field) == value ? NONE : FINE;
+        }
+
+        /** Answers the error of a delete, or FINE. */
+        int deleteFault(int key) {
+            return state.table.rowOf(key) == null ? UNKNOWN : FINE;
+        }
+
+        /** Answers the number of operations, or an error. */
         int runInsert(int key, int zero, int one, int two) {
-            begin();
+            int fault = insertFault(key, zero, one, two);
+            if (fault != FINE) {
+                return fault;
+            }
             top.image.fill(key, zero, one, two);
-            if (canTake(key)) {
-                operate(INSERT, top, NONE);
-            }
-            return end();
+            return run(INSERT);
         }
 
-        /** Answers the number of operations, or REFUSED. */
+        /** Answers the number of operations, an error, or NONE. */
         int runUpdate(int key, int field, int value) {
-            begin();
-            if (prepareUpdate(top.image, key, field, value)) {
-                operate(UPDATE, top, NONE);
+            int fault = updateFault(key, field, value);
+            if (fault != FINE) {
+                return fault;
             }
-            return end();
+            prepareUpdate(top.image, key, field, value);
+            return run(UPDATE);
         }
 
-        /** Answers the number of operations, or REFUSED. */
+        /** Answers the number of operations, or an error. */
         int runDelete(int key) {
-            begin();
-            if (prepareDelete(top.image, key)) {
-                operate(DELETE, top, NONE);
+            int fault = deleteFault(key);
+            if (fault != FINE) {
+                return fault;
             }
-            return end();
+            prepareDelete(top.image, key);
+            return run(DELETE);
+        }
+
+        /** Runs the statement whose image stands in the top level. */
+        private int run(int event) {
+            begin();
+            operate(event, top, NONE);
+            if (reason != FINE) {
+                return REFUSED;
+            }
+            state.statements++;
+            state.operations += operations;
+            state.firings += firings;
+            state.deepest = Math.max(state.deepest, deepest);
+            return operations;
         }
 
         int report(int what) {
@@ -994,19 +994,8 @@ public final class RuleDepths {
             }
         }
 
-        private int end() {
-            if (reason != FINE) {
-                return REFUSED;
-            }
-            state.statements++;
-            state.operations += operations;
-            state.firings += firings;
-            state.deepest = Math.max(state.deepest, deepest);
-            return operations;
-        }
-
         private boolean canTake(int key) {
-            return isKey(key) && state.table.rowOf(key) == null && !state.table.isFull();
+            return within(key, 0, MOST_KEY) && state.table.rowOf(key) == null && !state.table.isFull();
         }
 
         private boolean prepareUpdate(Row image, int key, int field, int value) {
@@ -1078,7 +1067,7 @@ public final class RuleDepths {
         /** Answers whether the operation goes on. */
         private boolean fireRules(int event, int moment, Level level) {
             RuleList rules = state.rules;
-            for (int place = 0; place < rules.count; place++) {
+            for (int place = 0; place < rules.count && place < MOST_RULES; place++) {
                 int number = rules.numberAt(place);
                 Rule rule = rules.ruleOf(number);
                 if (rule != null && rule.on && rule.isFor(event, moment) && !isHeldBack(number)
@@ -1250,7 +1239,7 @@ public final class RuleDepths {
         }
 
         private static boolean isDigit(int character, int most) {
-            return within(character, '0', '0' + most);
+            return character >= '0' && character <= '0' + most;
         }
 
         private void pass(char wanted) {
