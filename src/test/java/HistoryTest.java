@@ -9,6 +9,7 @@ public final class HistoryTest {
         fourStates();
         errorsAreNoChanges();
         undoBringsAllBack();
+        theRecordComesBack();
         keepAndRestore();
         textHistoryAndSnapshotAreNoState();
         Due.end();
@@ -129,6 +130,41 @@ public final class HistoryTest {
         }
         Due.is("firings of the rule", x.rule(0, 11), 1);
         Due.is("firing(0, 2)", x.firing(0, 2), 1);
+    }
+
+    private static void theRecordComesBack() {
+        RuleDepths x = new RuleDepths();
+        Due.rows(x, 0, 5);
+        x.addRule(2, 1, 0, 5, 0, 3, 1);
+        x.addRule(1, 1, 0, 4, 0, 0, 1);
+        x.setCondition(1, 3, 0, 1);
+        x.addRule(1, 1, 0, 1, 0, 0, 0);
+        x.setCondition(2, 0, 2, 8);
+        x.addRule(1, 1, 1, 4, 2, 0, 0);
+        x.setCondition(3, 3, 0, 1);
+        Due.is("delete", x.delete(4), 2);
+        checkRecord(x, "delete", new int[][] {{0, 1, 4}, {0, 2, 5}});
+        Due.is("refused on the depth 2", x.update(0, 0, 7), -1005);
+        checkRecord(x, "a refused statement", new int[][] {{0, 1, 4}, {0, 2, 5}});
+        x.ifUpdated(0, 0, 20, 0);
+        checkRecord(x, "a question", new int[][] {{0, 1, 4}, {0, 2, 5}});
+        x.keep();
+        Due.is("update", x.update(0, 0, 20), 3);
+        checkRecord(x, "update", new int[][] {{1, 1, 0}, {3, 1, 0}});
+        x.undo();
+        checkRecord(x, "undo", new int[][] {{0, 1, 4}, {0, 2, 5}});
+        x.update(0, 0, 20);
+        x.restore();
+        checkRecord(x, "restore", new int[][] {{0, 1, 4}, {0, 2, 5}});
+    }
+
+    private static void checkRecord(RuleDepths x, String when, int[][] due) {
+        Due.is("recorded after " + when, x.total(9), due.length);
+        for (int index = 0; index < due.length; index++) {
+            for (int what = 0; what < 3; what++) {
+                Due.is("firing(" + index + ", " + what + ") after " + when, x.firing(index, what), due[index][what]);
+            }
+        }
     }
 
     private static void keepAndRestore() {

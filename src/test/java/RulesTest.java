@@ -180,6 +180,13 @@ public final class RulesTest {
         for (int what = 0; what < 12; what++) {
             Due.is("new rule, " + what, x.rule(0, what), fresh[what]);
         }
+        RuleDepths y = new RuleDepths();
+        y.addRule(0, 0, 0, 0, 0, 0, 1);
+        y.insert(1, 0, 0, 0);
+        y.removeRule(0);
+        y.addRule(0, 0, 0, 0, 0, 0, 1);
+        Due.is("a new rule has not fired", y.rule(0, 11), 0);
+        Due.is("firings so far stay", y.total(7), 1);
     }
 
     private static void set() {

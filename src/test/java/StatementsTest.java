@@ -94,6 +94,15 @@ public final class StatementsTest {
         Due.is("first key", x.keyAt(0), 0);
         Due.is("third key", x.keyAt(2), 3);
         Due.is("rows", x.total(0), 4);
+        for (int place = 0; place < 20; place++) {
+            RuleDepths full = new RuleDepths();
+            Due.rows(full, 0, 19);
+            Due.is("delete one of 20", full.delete(place), 1);
+            for (int rank = 0; rank < 19; rank++) {
+                Due.is("keyAt(" + rank + ")", full.keyAt(rank), rank < place ? rank : rank + 1);
+            }
+            Due.is("no 20th row", full.keyAt(19), NONE);
+        }
         x.addRule(2, 0, 0, 1, 0, 0, 0);
         Due.is("refused", x.delete(3), REFUSED);
         Due.is("rows", x.total(0), 4);

@@ -123,6 +123,18 @@ public final class WhatIfTest {
         reports("refused after", updated(x, 2, 0, 9), 1, 3, 2, 3, 2);
         x.set(0, 1);
         reports("too deep comes first", updated(x, 2, 0, 9), 2, 2, 1, 1, 1);
+        RuleDepths z = new RuleDepths();
+        z.addRule(0, 0, 0, 1, 0, 0, 0);
+        z.addRule(0, 0, 1, 0, 0, 0, 0);
+        z.addRule(0, 0, 2, 1, 0, 0, 0);
+        reports("the first refusal counts, before", inserted(z, 1, 0), 1, 0, 1, 1, 1);
+        z.removeRule(0);
+        z.removeRule(0);
+        z.removeRule(0);
+        z.addRule(0, 1, 3, 1, 0, 0, 0);
+        z.addRule(0, 1, 3, 3, 0, 3, 1);
+        z.addRule(0, 1, 3, 1, 0, 0, 0);
+        reports("the first refusal counts, after", inserted(z, 1, 0), 1, 0, 1, 1, 1);
         RuleDepths y = new RuleDepths();
         Due.rows(y, 0, 9);
         for (int rule = 0; rule < 11; rule++) {
