@@ -989,9 +989,6 @@ public final class RuleDepths {
             deepest = 0;
             reason = FINE;
             refusingRule = NONE;
-            for (int number = 0; number < firing.length; number++) {
-                firing[number] = false;
-            }
         }
 
         private boolean canTake(int key) {
