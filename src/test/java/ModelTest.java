@@ -1,12 +1,17 @@
-/** Random runs of calls (always the same ones), compared with the model call by call. */
+/**
+ * Random runs of calls (always the same ones), compared with the model call by call; each ends with all that the calls
+ * tell, and none comes to more than the 512 calls for which an object is used.
+ */
 public final class ModelTest {
-    private static final int RUNS = 1500;
+    private static final int RUNS = 12000;
     private static final int CALLS = 512;
+    /** No step makes more calls: a text of five statements, clearing, performing. */
+    private static final int STEP_CALLS = 120;
 
     private static long seed;
     private static int wrong;
     private static int run;
-    private static int call;
+    private static int calls;
 
     public static void main(String[] args) {
         int[] reasons = new int[4];
@@ -35,9 +40,10 @@ public final class ModelTest {
     }
 
     private static void same(String name, int got, int want) {
+        calls++;
         if (got != want) {
             wrong++;
-            System.out.println("run " + run + ", call " + call + ": " + name + " answered " + got + ", due is " + want);
+            System.out.println("run " + run + ", call " + calls + ": " + name + " answered " + got + ", due is " + want);
         }
     }
 
@@ -69,29 +75,28 @@ public final class ModelTest {
     }
 
     private static void oneRun(RuleDepths x, Model m) {
+        calls = 0;
         int style = below(5);
         if (below(4) == 0) {
             dense(x, m);
         }
-        for (call = 0; call < CALLS && wrong < 20; call++) {
+        while (calls + STEP_CALLS + callsForAll(m) <= CALLS && wrong < 20) {
             int way = below(100);
-            if (way < 16) {
+            if (way < 20) {
                 rules(x, m);
-            } else if (way < 58) {
+            } else if (way < 70) {
                 statements(x, m, style);
-            } else if (way < 72) {
+            } else if (way < 73) {
                 texts(x, m, style);
-            } else if (way < 78) {
+            } else if (way < 79) {
                 histories(x, m);
-            } else if (way < 88) {
+            } else if (way < 83) {
                 views(x, m, style);
             } else {
                 whatIfs(x, m, style);
             }
-            if (call % 64 == 63) {
-                all(x, m);
-            }
         }
+        all(x, m);
     }
 
     /** Begins a run with rows and rules by which statements grow large. */
@@ -243,28 +248,40 @@ public final class ModelTest {
         }
     }
 
+    private static int callsForAll(Model m) {
+        return 12 + 13 * m.state.rules.size() + 4 * m.state.rows.size() + 3 * m.state.record.size() + 6 + 1;
+    }
+
+    /** The last step may have made the state larger, so that it can't be asked for all. */
+    private static boolean mayAsk() {
+        return calls < CALLS;
+    }
+
     /** All that the calls tell of the state. */
     private static void all(RuleDepths x, Model m) {
         for (int what = 0; what < 12; what++) {
             same("total(" + what + ")", x.total(what), m.total(what));
-            for (int rule = 0; rule < 12; rule++) {
+        }
+        for (int what = 0; what < 12; what++) {
+            for (int rule = 0; rule < m.state.rules.size() && mayAsk(); rule++) {
                 same("rule(" + rule + ", " + what + ")", x.rule(rule, what), m.rule(rule, what));
             }
         }
-        for (int rank = 0; rank <= 20; rank++) {
+        for (int rank = 0; rank <= m.state.rows.size() && mayAsk(); rank++) {
             int key = m.keyAt(rank);
             same("keyAt(" + rank + ")", x.keyAt(rank), key);
-            for (int field = 0; field < 3; field++) {
+            for (int field = 0; field < 3 && key >= 0 && mayAsk(); field++) {
                 same("field(" + key + ", " + field + ")", x.field(key, field), m.field(key, field));
             }
         }
-        for (int event = 0; event < 3; event++) {
-            for (int place = 0; place < 24; place++) {
-                same("order", x.order(event, place / 12, place % 12), m.order(event, place / 12, place % 12));
+        for (int group = 0; group < 6; group++) {
+            int rules = m.state.inOrder(group / 2, group % 2).size();
+            for (int place = 0; place <= rules && mayAsk(); place++) {
+                same("order", x.order(group / 2, group % 2, place), m.order(group / 2, group % 2, place));
             }
         }
-        for (int index = 0; index <= 60; index++) {
-            for (int what = 0; what < 3; what++) {
+        for (int index = 0; index <= m.state.record.size(); index++) {
+            for (int what = 0; what < 3 && mayAsk(); what++) {
                 same("firing(" + index + ", " + what + ")", x.firing(index, what), m.firing(index, what));
             }
         }
