@@ -473,6 +473,7 @@ public final class EdgesOfHistoryTest {
 
     /** What later calls answer is free, but none may throw or fail to end. */
     private static void callsBehindTheLast() {
+        Due.sentence("What it is", "what later calls answer is free.");
         RuleDepths x = new RuleDepths();
         int answers = 0;
         for (int call = 0; call < 5000; call++) {

@@ -322,7 +322,7 @@ public final class EdgesOfOperationsTest {
 
     private static void updateThatIsAsTheRowWas() {
         Due.sentence("OPERATIONS",
-                "3. The operation is carried out: the image is inserted, or takes the place of the row, or the row is "
+                "The operation is carried out: the image is inserted, or takes the place of the row, or the row is "
                 + "deleted. (It is carried out in step 3 also if the image of an update is as the row was by now.)");
         RuleDepths x = new RuleDepths();
         x.insert(1, 5, 5, 5);

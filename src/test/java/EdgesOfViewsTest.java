@@ -426,7 +426,7 @@ public final class EdgesOfViewsTest {
     }
 
     private static void questionsChangeNothing() {
-        Due.sentence("The interface", "what would be; nothing changes");
+        Due.sentence("ERRORS", "what would be; nothing changes");
         for (int question = 0; question < 6; question++) {
             int asked = question;
             int[] due = {4, 2, 2, 2, 2, 5};
