@@ -2,6 +2,7 @@ import com.sun.source.tree.ClassTree;
 import com.sun.source.tree.CompilationUnitTree;
 import com.sun.source.tree.MethodInvocationTree;
 import com.sun.source.tree.MethodTree;
+import com.sun.source.tree.NewArrayTree;
 import com.sun.source.tree.NewClassTree;
 import com.sun.source.tree.Tree;
 import com.sun.source.tree.VariableTree;
@@ -18,15 +19,17 @@ import java.util.Map;
 import java.util.Set;
 import java.util.TreeSet;
 import javax.lang.model.element.Element;
+import javax.lang.model.element.ElementKind;
 import javax.lang.model.element.Modifier;
+import javax.lang.model.util.ElementFilter;
 import javax.tools.JavaCompiler;
 import javax.tools.StandardJavaFileManager;
 import javax.tools.ToolProvider;
 
 /**
  * The rules of LANGUAGE.md that can be read from the compiler's tree of the class: which statements and which calls of
- * the library it has (rules 2, 4 and 6), static fields (5), recursion (8), and the sizes of rule 11. Run from the
- * project's root.
+ * the library it has (rules 2, 4 and 6), static fields (5), recursion (8), the sizes of rule 11, and that objects are
+ * made by constructors alone (12). Run from the project's root.
  */
 public final class CallsTest {
     private static final Path SOURCE = Path.of("src/main/java/RuleDepths.java");
@@ -170,8 +173,22 @@ public final class CallsTest {
         @Override
         public Void visitNewClass(NewClassTree tree, Void nothing) {
             Due.holds("an anonymous class", tree.getClassBody() == null);
+            madeInAConstructor(tree);
             called(trees.getElement(getCurrentPath()));
             return super.visitNewClass(tree, nothing);
+        }
+
+        @Override
+        public Void visitNewArray(NewArrayTree tree, Void nothing) {
+            madeInAConstructor(tree);
+            return super.visitNewArray(tree, nothing);
+        }
+
+        /** All calls of a run live in one room, so none of them is to make an object. */
+        private void madeInAConstructor(Tree made) {
+            for (Element maker : callers(getCurrentPath())) {
+                Due.holds(maker + " makes " + made, maker.getKind() == ElementKind.CONSTRUCTOR);
+            }
         }
 
         private void called(Element target) {
@@ -193,7 +210,7 @@ public final class CallsTest {
             }
             Element element = trees.getElement(around);
             return around.getLeaf() instanceof MethodTree ? List.of(element)
-                    : List.copyOf(javax.lang.model.util.ElementFilter.constructorsIn(element.getEnclosedElements()));
+                    : List.copyOf(ElementFilter.constructorsIn(element.getEnclosedElements()));
         }
     }
 }

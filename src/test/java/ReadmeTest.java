@@ -1,10 +1,20 @@
+import java.lang.reflect.Array;
+import java.lang.reflect.Field;
 import java.lang.reflect.Method;
+import java.lang.reflect.Modifier;
 import java.nio.file.Files;
 import java.nio.file.Path;
+import java.util.Collections;
+import java.util.IdentityHashMap;
+import java.util.Locale;
+import java.util.Set;
 import java.util.regex.Matcher;
 import java.util.regex.Pattern;
 
-/** Runs the examples of README.md, and compares the answers that stand behind the calls; from the project's root. */
+/**
+ * Runs the examples of README.md, and compares the answers that stand behind the calls; also looks at the constants, the
+ * names of the calls and the number of objects that it tells of. Run from the project's root.
+ */
 public final class ReadmeTest {
     private static final String NEW = "RuleDepths table = new RuleDepths();";
     private static final Pattern CALL = Pattern.compile("table\\.(\\w+)\\(([^)]*)\\); +// ([-\\w]+)(:.*)?");
@@ -12,6 +22,10 @@ public final class ReadmeTest {
 
     private static RuleDepths table;
     private static int calls;
+
+    private static final Set<Object> OBJECTS = Collections.newSetFromMap(new IdentityHashMap<>());
+    /** The fields and elements of these objects. */
+    private static int parts;
 
     public static void main(String[] args) throws Exception {
         boolean inExample = false;
@@ -24,6 +38,7 @@ public final class ReadmeTest {
         }
         Due.holds("the examples have only " + calls + " calls", calls >= LEAST_CALLS);
         constants();
+        objectsOfOne();
         Due.end();
     }
 
@@ -77,6 +92,35 @@ public final class ReadmeTest {
         for (Method method : RuleDepths.class.getMethods()) {
             if (method.getDeclaringClass() == RuleDepths.class) {
                 Due.holds("README.md tells of " + method.getName(), readme.contains("| `" + method.getName() + "("));
+            }
+        }
+    }
+
+    /** README.md tells how many objects and arrays one object consists of, with how many fields and elements. */
+    private static void objectsOfOne() throws Exception {
+        walk(new RuleDepths());
+        String told = String.format(Locale.ROOT, "(%d, with %,d fields and elements)", OBJECTS.size(), parts);
+        Due.holds("README.md does not tell of " + told, Files.readString(Path.of("README.md")).contains(told));
+    }
+
+    private static void walk(Object object) throws Exception {
+        if (object == null || !OBJECTS.add(object)) {
+            return;
+        }
+        if (object.getClass().isArray()) {
+            parts += Array.getLength(object);
+            for (int i = 0; object instanceof Object[] && i < Array.getLength(object); i++) {
+                walk(Array.get(object, i));
+            }
+            return;
+        }
+        for (Field field : object.getClass().getDeclaredFields()) {
+            if (!Modifier.isStatic(field.getModifiers())) {
+                parts++;
+                field.setAccessible(true);
+                if (!field.getType().isPrimitive()) {
+                    walk(field.get(object));
+                }
             }
         }
     }
